@@ -922,10 +922,6 @@ public final class LargerPacket {
             System.arraycopy(other.grams, 0, grams, 0, KEEPINGS);
         }
 
-        void clear() {
-            Arrays.fill(grams, 0);
-        }
-
         void add(int k, int more) {
             grams[k] += more;
         }
@@ -1169,13 +1165,6 @@ public final class LargerPacket {
             }
         }
 
-        void clear() {
-            larder.clear();
-            packets = 0;
-            need = 0;
-            room = 0;
-        }
-
         void addPacket(int kind, int weight, int price, int keeping) {
             if (packets < MOST_PACKETS) {
                 kinds[packets] = kind;
@@ -1210,7 +1199,7 @@ public final class LargerPacket {
         }
 
         private void begin(Rows texts, int t) {
-            found.clear();
+            found.packets = 0;
             size = texts.sizeOf(t);
             for (int i = 0; i < size; i++) {
                 signs[i] = texts.get(t, i);

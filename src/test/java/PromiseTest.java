@@ -569,6 +569,22 @@ public final class PromiseTest {
         due("digest() done again", x.digest(), digests[2]);
         due("undo(0)", x.undo(0), 2);
         due("digest() behind undo(0)", x.digest(), digests[0]);
+        x.buy(5, 3);
+        x.week();
+        due("week()", x.week(), 0);
+        x.buy(5, 3);
+        x.week();
+        x.buy(2, 3);
+        x.week();
+        x.week();
+        due("week()", x.week(), 3);
+        x.keep(1);
+        due("undo(5)", x.undo(5), 4);
+        due("count(7)", x.count(7), 0);
+        due("on(1)", x.on(1), 9);
+        due("count(7)", x.count(7), 3);
+        x.house(3);
+        due("count(7)", x.count(7), 0);
         for (int d = 0; d < 40; d++) {
             x.week();
         }
@@ -702,6 +718,12 @@ public final class PromiseTest {
         x = houseOf("n110s9901p5801p4401");
         due("larger()", x.larger(), 2);
         due("asked()", x.asked(), 1);
+        x = houseOf("n110s1901p2201p2301p1001");
+        due("larger()", x.larger(), 2);
+        due("asked()", x.asked(), 6 + 3);
+        x = houseOf(SIX);
+        due("larger()", x.larger(), 1);
+        due("asked()", x.asked(), 6 * 1 + 4);
         x = houseOf("n110c3601p2301");
         due("larger()", x.larger(), 1);
         due("asked()", x.asked(), 1);
@@ -850,6 +872,7 @@ public final class PromiseTest {
         due("asked()", x.asked(), 68);
         due("looks(9, 6)", x.looks(9, 6), NONE);
         due("asked()", x.asked(), 68);
+        due("looks(0, 9)", x.looks(0, 9), NONE);
         due("looks(-1, 5)", x.looks(-1, 5), BAD);
         due("looks(10, 5)", x.looks(10, 5), BAD);
         due("looks(0, 0)", x.looks(0, 0), BAD);
@@ -1064,6 +1087,20 @@ public final class PromiseTest {
         x.undo(39);
         due("count(2)", x.count(2), 39);
         due("changed", x.digest() == full ? 1 : 0, 0);
+        // Seed 10 comes to 482710: 2, a WEEK; seed 2 to 96542: 3, and PACKET 2.
+        x = houseOf("n299p4409s9801h3302");
+        x.buy(0, 1);
+        due("lots(1, 10)", x.lots(1, 10), 2);
+        due("count(1)", x.count(1), 1);
+        due("count(5)", x.count(5), 2);
+        due("lots(1, 2)", x.lots(1, 2), 2);
+        told(x, "packet(2, 1)", x.packet(2, 1), 2);
+        told(x, "packet(0, 1)", x.packet(0, 1), 4);
+        due("count(1)", x.count(1), 1);
+        due("lots(1, 2)", x.lots(1, 2), 2);
+        due("lots(1, 2)", x.lots(1, 2), 0);
+        told(x, "packet(2, 1)", x.packet(2, 1), 1);
+        due("count(1)", x.count(1), 2);
         // With no ROOM a PACKET that is not to be had, or shrunk, makes a WEEK.
         x = houseOf("n100p1409");
         due("lots(20, 7)", x.lots(20, 7), 0);
