@@ -229,20 +229,14 @@ public final class LargerPacket {
         if (!house.hasRoomFor(i, n)) {
             return SPENT;
         }
-        if (house.hasDeedsFor(1)) {
-            return house.perform(BUYING, i, n);
-        }
-        return FULL;
+        return house.perform(BUYING, i, n);
     }
 
     public int week() {
         if (house.packets == 0) {
             return STATE;
         }
-        if (house.hasDeedsFor(1)) {
-            return house.perform(A_WEEK, 0, 0);
-        }
-        return FULL;
+        return house.perform(A_WEEK, 0, 0);
     }
 
     public int shrink(int i) {
@@ -252,10 +246,7 @@ public final class LargerPacket {
         if (!house.canShrink(i)) {
             return STATE;
         }
-        if (house.hasDeedsFor(1)) {
-            return house.perform(SHRINKING, i, 0);
-        }
-        return FULL;
+        return house.perform(SHRINKING, i, 0);
     }
 
     public int price(int i, int v) {
@@ -265,10 +256,7 @@ public final class LargerPacket {
         if (house.prices[i] == v) {
             return STATE;
         }
-        if (house.hasDeedsFor(1)) {
-            return house.perform(A_PRICE, i, v);
-        }
-        return FULL;
+        return house.perform(A_PRICE, i, v);
     }
 
     public int card(int has) {
@@ -278,10 +266,7 @@ public final class LargerPacket {
         if (house.packets == 0 || house.hasCard == (has == 1)) {
             return STATE;
         }
-        if (house.hasDeedsFor(1)) {
-            return house.perform(THE_CARD, 0, has);
-        }
-        return FULL;
+        return house.perform(THE_CARD, 0, has);
     }
 
     public int undo(int n) {
@@ -474,7 +459,7 @@ public final class LargerPacket {
             if (house.getsBy(i) >= v) {
                 cost = Math.min(cost, house.costOf(i, 1));
             }
-            if (cost < UNREACHED && cost + c * (i + 1) < together) {
+            if (cost + c * (i + 1) < together) {
                 together = cost + c * (i + 1);
                 many = i + 1;
             }
@@ -1108,7 +1093,7 @@ public final class LargerPacket {
             return many;
         }
 
-        /** Does what was found to be possible, and logs it; answers what the DEED's call answers. */
+        /** Does what was found to be possible but for FULL, and logs it; answers what the DEED's call answers. */
         int perform(int deed, int i, int v) {
             if (!hasDeedsFor(1)) {
                 return FULL;

@@ -183,8 +183,11 @@ public final class DeedEdgesTest extends Edges {
 
     private static void undo() {
         says(20, "DEEDS from number n on are undone: how many.");
-        String[] deeds = {"buy(2, 3)", "week()", "shrink(3)", "price(4, 99)", "card(1)", "buy(4, 2)", "buy(5, 3)", "week()",
-            "card(0)", "price(4, 0)", "shrink(3)", "buy(3, 1)"};
+        // Some is eaten, some goes off, and there is HUNGER, on the way.
+        String[] deeds = {"week()", "buy(5, 3)", "week()", "week()", "shrink(3)", "price(4, 99)", "card(1)", "buy(5, 3)", "buy(4, 2)",
+            "week()", "week()", "week()", "card(0)", "price(4, 0)", "buy(5, 3)", "buy(5, 3)", "week()", "week()", "shrink(3)", "buy(3, 1)"};
+        Run whole = Run.of(SIX).does(deeds);
+        whole.due("count(5)", 3 + 3 + 3 + 3 + 3 + 3 + 3).due("count(6)", 3).due("count(7)", 6);
         for (int n = 0; n < deeds.length; n++) {
             Run few = Run.of(SIX);
             Run all = Run.of(SIX);
@@ -232,15 +235,17 @@ public final class DeedEdgesTest extends Edges {
 
     private static void on() {
         says(22, "The HOUSE is as it was kept: how many DEEDS.");
-        Run run = Run.of(SIX).does("buy(2, 3)", "card(1)", "price(4, 99)", "shrink(0)", "week()");
+        Run run = Run.of(SIX).does("week()", "buy(5, 3)", "buy(5, 3)", "card(1)", "price(4, 99)", "shrink(0)", "week()", "week()", "buy(2, 3)");
         Run kept = run.twin().does("keep(1)");
-        Run gone = kept.twin().does("week()", "week()", "week()", "card(0)", "price(4, 0)", "shrink(0)", "shrink(0)");
-        gone.due("on(1)", 5);
+        Run gone = kept.twin().does("buy(5, 3)", "week()", "week()", "week()", "week()", "card(0)", "price(4, 0)", "shrink(0)", "shrink(0)");
+        kept.twin().countsAre(6, 3, 9, 140, 9, 6, 3, 6, 1);
+        gone.twin().countsAre(6, 7, 18, 180, 0, 15, 6, 12, 0).due("on(1)", 9).countsAre(6, 3, 9, 140, 9, 6, 3, 6, 1);
+        gone.due("on(1)", 9);
         expect("all that is told behind on(1)", gone.allThatIsTold(), kept.allThatIsTold());
         // It can be gone on from again, and stays kept as it was.
-        gone.does("undo(0)", "buy(0, 3)").due("on(1)", 5);
+        gone.does("undo(0)", "buy(0, 3)").due("on(1)", 9);
         expect("all that is told behind on(1)", gone.allThatIsTold(), kept.allThatIsTold());
-        gone.due("undo(2)", 3).due("keep(0)", 2).due("on(1)", 5).due("on(0)", 2).due("undo(1)", 1).due("on(0)", 2);
+        gone.due("undo(2)", 7).due("keep(0)", 2).due("on(1)", 9).due("on(0)", 2).due("undo(1)", 1).due("on(0)", 2);
         // ROWS, TEXTS, what was told are not kept.
         run = Run.of(SIX).does("keep(0)").lay(0, 7).does("at(0, 0)", "text(2, 4)").due("on(0)", 0).rowIs(0, 7);
         run.due("asked()", 7).due("fault(2)", 4);

@@ -163,9 +163,9 @@ public final class HouseEdgesTest extends Edges {
 
     private static void houseAnew() {
         says(11, "(anew: WEEK 0, an empty LARDER, no card, no DEEDS; kept HOUSES go): how many PACKETS.");
-        Run run = Run.of(SIX).does("keep(0)", "card(1)", "buy(2, 3)", "week()", "week()", "week()", "week()");
-        run.does("shrink(0)", "price(0, 99)", "keep(1)", "keep(2)");
-        run.countsAre(6, 4, 8, 60, 0, 9, 3, 0, 1, 2, 2, 0, 1, 3, 3, 40);
+        Run run = Run.of(SIX).does("keep(0)", "card(1)", "buy(2, 3)", "buy(5, 3)", "week()", "week()", "week()", "week()");
+        run.does("shrink(0)", "price(0, 99)", "buy(0, 1)", "keep(1)", "keep(2)");
+        run.countsAre(6, 4, 10, 199, 3, 9, 3, 6, 1, 2, 2, 0, 1, 3, 3, 40);
         run.due("house(3)", 6).countsAre(6, 0, 0, 0, 0, 0, 0, 0, 0, 2, 2, 0, 1, 0, 3, 40).larderIs();
         run.told("packet(0, 1)", 4).told("packet(0, 2)", 40).told("packet(1, 4)", 45);
         run.refused("undo(0)", BAD).refused("on(0)", NOTHING).refused("on(1)", NOTHING).refused("on(2)", NOTHING);
