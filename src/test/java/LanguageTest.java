@@ -17,6 +17,7 @@ import com.sun.source.tree.TryTree;
 import com.sun.source.tree.VariableTree;
 import com.sun.source.util.JavacTask;
 import com.sun.source.util.SourcePositions;
+import com.sun.source.util.TreePathScanner;
 import com.sun.source.util.TreeScanner;
 import com.sun.source.util.Trees;
 import java.io.File;
@@ -24,10 +25,15 @@ import java.lang.reflect.Constructor;
 import java.lang.reflect.Field;
 import java.lang.reflect.Method;
 import java.lang.reflect.Modifier;
+import java.util.ArrayList;
 import java.util.Arrays;
+import java.util.LinkedHashMap;
+import java.util.LinkedHashSet;
 import java.util.List;
+import java.util.Map;
 import java.util.Set;
 import java.util.TreeSet;
+import javax.lang.model.element.Element;
 import javax.tools.JavaCompiler;
 import javax.tools.StandardJavaFileManager;
 import javax.tools.ToolProvider;
@@ -41,6 +47,8 @@ public final class LanguageTest {
         + "kinds(int,int) prices(int,int) grams(int,int,int) shop(int) odds(int,int) mid(int) lots(int,int) asked() "
         + "upper() lower() count(int) finding() findings(int) digest()";
     private static final Set<String> LONGS = Set.of("upper", "lower", "digest");
+    private static final Set<String> TYPES = Set.of("int", "long", "short", "byte", "char", "boolean", "int[]", "long[]",
+        "boolean[]", "int[][]", "Rows", "Reader", "House", "House[]", "Larder", "Larder[]", "Basket", "Planner");
     private static final Set<String> IMPORTS = Set.of("java.util.Arrays", "java.util.ArrayList", "java.util.List");
     private static final Set<String> LIBRARY = Set.of("Math.min", "Math.max", "Math.abs", "Integer.compare",
         "Arrays.fill", "System.arraycopy");
@@ -112,11 +120,74 @@ public final class LanguageTest {
         StandardJavaFileManager files = compiler.getStandardFileManager(null, null, null);
         JavacTask task = (JavacTask) compiler.getTask(null, files, null, null, null, files.getJavaFileObjects(file));
         SourcePositions positions = Trees.instance(task).getSourcePositions();
-        for (CompilationUnitTree unit : task.parse()) {
+        Depths depths = new Depths(Trees.instance(task));
+        Iterable<? extends CompilationUnitTree> units = task.parse();
+        task.analyze();
+        for (CompilationUnitTree unit : units) {
             for (ImportTree i : unit.getImports()) {
                 check(IMPORTS.contains(i.getQualifiedIdentifier().toString()), "rule 4: " + i);
             }
             new Rules(unit, positions).scan(unit, null);
+            depths.scan(unit, null);
+        }
+        depths.checkAll();
+    }
+
+    /** How deep calls go: methods that call one another count once each. */
+    private static final class Depths extends TreePathScanner<Void, Void> {
+        private static final int DEEPEST = 8;
+        private final Trees trees;
+        private final Map<Element, Set<Element>> calls = new LinkedHashMap<>();
+        private Element caller = null;
+
+        Depths(Trees trees) {
+            this.trees = trees;
+        }
+
+        @Override
+        public Void visitMethod(MethodTree tree, Void none) {
+            caller = trees.getElement(getCurrentPath());
+            calls.put(caller, new LinkedHashSet<>());
+            super.visitMethod(tree, none);
+            caller = null;
+            return null;
+        }
+
+        @Override
+        public Void visitMethodInvocation(MethodInvocationTree tree, Void none) {
+            note();
+            return super.visitMethodInvocation(tree, none);
+        }
+
+        @Override
+        public Void visitNewClass(NewClassTree tree, Void none) {
+            note();
+            return super.visitNewClass(tree, none);
+        }
+
+        private void note() {
+            if (caller != null) {
+                calls.get(caller).add(trees.getElement(getCurrentPath()));
+            }
+        }
+
+        void checkAll() {
+            check(calls.size() > 100, "rule 11: only " + calls.size() + " methods were looked at");
+            for (Element method : calls.keySet()) {
+                List<Element> deepest = deepest(method, new ArrayList<>());
+                check(deepest.size() <= DEEPEST, "rule 11: calls go " + deepest.size() + " deep: " + deepest);
+            }
+        }
+
+        private List<Element> deepest(Element method, List<Element> open) {
+            List<Element> best = new ArrayList<>(open);
+            best.add(method);
+            List<Element> here = best;
+            for (Element callee : calls.getOrDefault(method, Set.of())) {
+                List<Element> chain = here.contains(callee) ? here : deepest(callee, here);
+                best = chain.size() > best.size() ? chain : best;
+            }
+            return best;
         }
     }
 
@@ -142,6 +213,8 @@ public final class LanguageTest {
         @Override
         public Void visitClass(ClassTree tree, Void none) {
             classes++;
+            check(classes == 1 || !inMethod && tree.getModifiers().getFlags().contains(javax.lang.model.element.Modifier.STATIC),
+                "rule 2: " + tree.getSimpleName() + " is not static");
             check(classes <= 12, "rule 11: more than twelve classes");
             int fields = 0;
             for (Tree member : tree.getMembers()) {
@@ -162,10 +235,20 @@ public final class LanguageTest {
             long lines = line(positions.getEndPosition(unit, tree)) - line(positions.getStartPosition(unit, tree)) + 1;
             check(lines <= 60, "rule 11: " + tree.getName() + " has " + lines + " lines");
             check(tree.getParameters().size() <= 7, "rule 11: " + tree.getName() + " has too many parameters");
+            check(!tree.getModifiers().getFlags().contains(javax.lang.model.element.Modifier.PRIVATE)
+                || !(" " + FACE).contains(" " + tree.getName() + "("), "rule 1: " + tree.getName() + " is private and public");
             inMethod = !tree.getName().contentEquals("<init>");
             super.visitMethod(tree, none);
             inMethod = false;
             return null;
+        }
+
+        @Override
+        public Void visitVariable(VariableTree tree, Void none) {
+            if (!TYPES.contains(tree.getType().toString())) {
+                refuse(3, tree);
+            }
+            return super.visitVariable(tree, none);
         }
 
         @Override
